@@ -213,9 +213,10 @@ public final class CoachAhead {
         if (!now.stands()) {
             return NO_SUCH;
         }
+        rideAll();
         int bits = 0;
         for (int r = 0; r < now.riders(); r++) {
-            if (!now.hasTicket(r) && isHad(r)) {
+            if (!now.hasTicket(r) && rides[r].caughtIn != NONE) {
                 bits |= 1 << r;
             }
         }
@@ -226,11 +227,12 @@ public final class CoachAhead {
         if (!now.stands()) {
             return NO_SUCH;
         }
+        rideAll();
         int sum = 0;
         for (int r = 0; r < now.riders(); r++) {
             if (now.hasTicket(r)) {
                 sum += now.fare();
-            } else if (isHad(r)) {
+            } else if (rides[r].caughtIn != NONE) {
                 sum += now.fineSum();
             }
         }
@@ -497,30 +499,14 @@ public final class CoachAhead {
         if (!now.hasRider(rider) || !now.hasDay(day)) {
             return NO_SUCH;
         }
-        boolean caught = isHad(rider);
-        for (int sum = 0; sum <= MOST_FINE; sum++) {
-            if (pays(caught, sum, now.odds[day])) {
-                return sum;
-            }
-            // Without odds a higher fine weighs no more than this one.
-            if (!caught || now.odds[day] == 0) {
-                return NONE;
-            }
-        }
-        return NONE;
+        return leastToPay(isHad(rider) ? now.odds[day] : 0, MOST_FINE);
     }
 
     public int often(int rider) {
         if (!now.hasRider(rider)) {
             return NO_SUCH;
         }
-        boolean caught = isHad(rider);
-        for (int odds = 0; odds <= 100; odds++) {
-            if (pays(caught, now.fineSum(), odds)) {
-                return odds;
-            }
-        }
-        return NONE;
+        return leastToPay(isHad(rider) ? now.fineSum() : 0, 100);
     }
 
     public int mean(int rider, int what) {
@@ -822,14 +808,20 @@ public final class CoachAhead {
 
     private Ride tripOf(int rider) {
         followAll();
-        rides[rider].travel(now, rider, now.ofRider(rider, Train.RULE), courses, now.inspectors());
-        return rides[rider];
+        return rideOf(rider);
     }
 
     private void rideAll() {
+        followAll();
         for (int r = 0; r < now.riders(); r++) {
-            tripOf(r);
+            rideOf(r);
         }
+    }
+
+    /** A RIDER's way by the TRIP; the INSPECTORS' courses must stand already. */
+    private Ride rideOf(int rider) {
+        rides[rider].travel(now, rider, now.ofRider(rider, Train.RULE), courses, now.inspectors());
+        return rides[rider];
     }
 
     private boolean isHad(int rider) {
@@ -939,6 +931,19 @@ public final class CoachAhead {
     private boolean pays(boolean caught, int fineSum, int odds) {
         int risk = caught ? fineSum * odds : 0;
         return risk >= 100 * now.fare();
+    }
+
+    /** The least number up to most that, times a weight, makes one pay the fare, or NONE. */
+    private int leastToPay(int weight, int most) {
+        int due = 100 * now.fare();
+        if (due == 0) {
+            return 0;
+        }
+        if (weight < 1) {
+            return NONE;
+        }
+        int least = (due + weight - 1) / weight;
+        return least <= most ? least : NONE;
     }
 
     private static int commonDivisor(int a, int b) {
@@ -1119,8 +1124,8 @@ public final class CoachAhead {
                     to++;
                 }
             }
-            if (kind == NUMBER) {
-                readDigits();
+            for (int i = from; i < to && kind == NUMBER && number < HUGE; i++) {
+                number = number * 10 + (tape.bytes[i] - '0');
             }
         }
 
@@ -1134,12 +1139,6 @@ public final class CoachAhead {
                 }
             }
             return true;
-        }
-
-        private void readDigits() {
-            for (int i = from; i < to; i++) {
-                number = Math.min(HUGE, number * 10 + (tape.bytes[i] - '0'));
-            }
         }
 
         private static int kindOf(byte sign) {
@@ -1350,19 +1349,11 @@ public final class CoachAhead {
             return choice;
         }
 
+        /** The number behind a word, or NONE at a FAULT. */
         private int readAfter(String word, int least, int most) {
-            return readWord(word) ? readNumber(least, most) : NONE;
-        }
-
-        private boolean readWord(String word) {
-            if (!tokens.is(word)) {
-                return refuse(MISPLACED);
+            if (!readWord(word)) {
+                return NONE;
             }
-            tokens.advance();
-            return true;
-        }
-
-        private int readNumber(int least, int most) {
             if (tokens.kind != Tokens.NUMBER) {
                 refuse(MISPLACED);
                 return NONE;
@@ -1374,6 +1365,14 @@ public final class CoachAhead {
             }
             tokens.advance();
             return n;
+        }
+
+        private boolean readWord(String word) {
+            if (!tokens.is(word)) {
+                return refuse(MISPLACED);
+            }
+            tokens.advance();
+            return true;
         }
 
         private boolean readSign() {
@@ -1754,7 +1753,7 @@ public final class CoachAhead {
             for (int i = 0; i < inspectors; i++) {
                 int spot = courses[i].spots[minute];
                 int far = Math.abs(spot - coach);
-                if (spot != NONE && (far < nearest || far == nearest && spot < best)) {
+                if (spot != NONE && (far < nearest || (far == nearest && spot < best))) {
                     best = spot;
                     nearest = far;
                 }
@@ -1855,12 +1854,13 @@ public final class CoachAhead {
                 int reach = seats;
                 int platform = 0;
                 if (m < last) {
-                    reach |= seats >> 1 & ~upMet[m] | seats << 1 & ~downMet[m];
+                    reach |= (seats >> 1) & ~upMet[m];
+                    reach |= (seats << 1) & ~downMet[m];
                     platform = train.isStop(m) && (seats & doors) != 0 ? doors : 0;
                 }
                 seats = (reach | cabins | platform) & all & ~guarded[m];
                 cabins = (reach | cabins) & loos & ~knocked[m];
-                open[m] = seats | cabins << LOOS_FROM;
+                open[m] = seats | (cabins << LOOS_FROM);
             }
             return seats;
         }
@@ -1882,12 +1882,14 @@ public final class CoachAhead {
             int seats = places & all;
             int cabins = places >> LOOS_FROM;
             int from = seats | cabins;
-            int reach = from | (from & ~upMet[minute]) << 1 | (from & ~downMet[minute]) >> 1;
+            int reach = from | ((from & ~upMet[minute]) << 1) | ((from & ~downMet[minute]) >> 1);
             if (train.isStop(minute) && (seats & doors) != 0) {
                 reach |= doors;
             }
-            int hidden = cabins | seats & loos;
-            return reach & all & ~guarded[minute + 1] | (hidden & ~knocked[minute + 1]) << LOOS_FROM;
+            int hidden = cabins | (seats & loos);
+            seats = reach & all & ~guarded[minute + 1];
+            cabins = hidden & ~knocked[minute + 1];
+            return seats | (cabins << LOOS_FROM);
         }
 
         /** The PLACE to which a STEP leads from which one can go on, or NONE; solve() comes ahead. */
@@ -2053,7 +2055,7 @@ public final class CoachAhead {
         }
 
         int draw() {
-            x = FACTOR * x + PLUS & MASK;
+            x = (FACTOR * x + PLUS) & MASK;
             return (int) (x / 65536 % 100);
         }
     }
