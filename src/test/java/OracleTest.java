@@ -25,7 +25,7 @@ public final class OracleTest {
         CHECKS.close("OracleTest");
     }
 
-    private static Oracle make(Random random) {
+    static Oracle make(Random random) {
         Oracle o = new Oracle();
         o.coaches = 2 + random.nextInt(random.nextInt(4) == 0 ? 7 : 4);
         o.minutes = 1 + random.nextInt(random.nextInt(4) == 0 ? 40 : 12);
