@@ -19,7 +19,7 @@ public final class AnyCallTest {
         }
         methods.sort(Comparator.comparing(Method::getName));
         for (int seed = 0; seed < 300; seed++) {
-            Random random = new Random(seed);
+            Random random = Checks.randomOf(seed);
             CoachAhead x = new CoachAhead();
             CoachAhead y = new CoachAhead();
             int left = 512;

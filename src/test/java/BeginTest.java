@@ -27,6 +27,8 @@ public final class BeginTest {
         row("train coaches 2 minutes 1 every 1 fare 0 fine 0; inspector at 1 down pace 1;", 2, 0, 2);
         row("train coaches 3 minutes 1 every 1 fare 0 fine 0; inspector at 1 down pace 1;", 3, 0, 2, 4);
         row("train coaches 4 minutes 1 every 1 fare 0 fine 0; inspector at 1 down pace 1;", -1);
+        row("train coaches 8 minutes 1 every 1 fare 0 fine 0; inspector at 1 down pace 1;", -1);
+        row("train coaches 8 minutes 40 every 1 fare 0 fine 0; inspector at 1 down pace 1;", 1, 0);
         // One goes up through all, and is out again only behind the END.
         row("train coaches 4 minutes 4 every 9 fare 0 fine 0; inspector at 2 down pace 1;", 1, 0);
         row("train coaches 4 minutes 3 every 9 fare 0 fine 0; inspector at 2 down pace 1;", 2, 0, 2);

@@ -95,6 +95,8 @@ public final class ChangeTest {
         CHECKS.due("SLOTS stay", x.count(10), 1);
         CHECKS.due("the TAPE stays", x.count(8), 3);
         CHECKS.due("undo()", x.undo(), 1);
+        CHECKS.due("COACH", x.inspector(0, 0), 0);
+        CHECKS.due("loo", x.coach(1, 1), 1);
         CHECKS.due("undo()", x.undo(), 0);
         CHECKS.due("people", x.coach(0, 0), 5);
         // The IMAGE is as it was kept, however often it is gone back to.

@@ -22,6 +22,11 @@ final class Checks {
         }
     }
 
+    /** Java's generator gives like first numbers for near seeds, so these are spread. */
+    static java.util.Random randomOf(int seed) {
+        return new java.util.Random((seed + 1) * 0x9E3779B97F4A7C15L);
+    }
+
     /** Puts a text behind the TAPE: how many calls that took. */
     static int type(CoachAhead x, String text) {
         int before = x.count(8);

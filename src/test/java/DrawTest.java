@@ -4,6 +4,7 @@ public final class DrawTest {
 
     public static void main(String[] args) {
         oneKnock();
+        manySeeds();
         severalKnocks();
         ridersInTheirOrder();
         whoComesLater();
@@ -28,6 +29,18 @@ public final class DrawTest {
         CHECKS.due("trips(1, 1, 0)", hiding(38).trips(1, 1, 0), 0);
         CHECKS.due("trips(2000000000, 20, 0)", hiding(100).trips(2000000000, 20, 0), 20);
         CHECKS.due("trips(5, 20, 0)", hiding(0).trips(5, 20, 0), 0);
+    }
+
+    private static void manySeeds() {
+        java.util.Random random = new java.util.Random(5);
+        for (int i = 0; i < 300; i++) {
+            int seed = i < 20 ? 2000000000 - i : random.nextInt(2000000001);
+            int draw = java.math.BigInteger.valueOf(1103515245).multiply(java.math.BigInteger.valueOf(seed))
+                .add(java.math.BigInteger.valueOf(12345)).mod(java.math.BigInteger.ONE.shiftLeft(31))
+                .shiftRight(16).mod(java.math.BigInteger.valueOf(100)).intValue();
+            CHECKS.due("drawn(" + seed + ", 0) by " + draw, hiding(draw).drawn(seed, 0), -1);
+            CHECKS.due("drawn(" + seed + ", 0) above " + draw, hiding(draw + 1).drawn(seed, 0), 1);
+        }
     }
 
     private static void severalKnocks() {

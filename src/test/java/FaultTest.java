@@ -138,7 +138,7 @@ public final class FaultTest {
     public static void main(String[] args) {
         int[] seen = new int[4];
         for (int seed = 0; seed < 6000; seed++) {
-            Random random = new Random(seed);
+            Random random = Checks.randomOf(seed);
             String text = spoil(goodText(random), random);
             if (text.length() > 1180) {
                 continue;

@@ -102,6 +102,13 @@ public final class MoneyTest {
         CHECKS.due("often(0)", x.often(0), -1);
         CHECKS.due("week(0)", x.week(0), 0);
         CHECKS.due("fine(0, 0)", x.fine(0, 0), 50);
+        // One hundredth below the fare.
+        x = Checks.of("train coaches 2 minutes 2 every 1 fare 2 fine 199; inspector at 0 up pace 1;"
+            + "rider in 0 stay sees 0 looks 0; day 0 odds 1; day 1 odds 2;");
+        CHECKS.due("dodges(0, 0)", x.dodges(0, 0), 1);
+        CHECKS.due("dodges(0, 1)", x.dodges(0, 1), 0);
+        CHECKS.due("often(0)", x.often(0), 2);
+        CHECKS.due("week(0)", x.week(0), 399);
     }
 
     private static void wrongInputs() {

@@ -15,7 +15,7 @@ public final class OracleTest {
 
     public static void main(String[] args) {
         for (int seed = 0; seed < 400; seed++) {
-            Random random = new Random(seed);
+            Random random = Checks.randomOf(seed);
             Oracle o = make(random);
             about = "seed " + seed + ": ";
             CoachAhead x = Checks.of(o.text());

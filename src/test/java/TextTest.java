@@ -217,6 +217,8 @@ public final class TextTest {
 
     private static void tokens() {
         good("train\ncoaches4minutes8every3fare3fine60;coach1people5loo doors;day0odds5;", 3);
+        bad("trainz coaches 4;", 1, 0);
+        bad("traina coaches 4;", 1, 0);
         badTail("", "\tcoach 1 people 5;", 1);
         badTail("", "Coach 1 people 5;", 1);
         badTail("coach ", "-1 people 5;", 1);

@@ -9,6 +9,7 @@ public final class UncaughtTest {
         swaps();
         platforms();
         loos();
+        eightCoaches();
         oneMinute();
         marksThatMatter();
         wrongInputs();
@@ -135,6 +136,29 @@ public final class UncaughtTest {
         CHECKS.due("room(1)", x.room(1), 1);
         CHECKS.due("room(2)", x.room(2), 2);
         CHECKS.due("room(3)", x.room(3), 4);
+        // Into the LOO of 0, out of it, and by the platform past the one that knocks.
+        x = Checks.of("train coaches 2 minutes 7 every 1 fare 0 fine 0; coach 0 people 0 loo doors;"
+            + "coach 1 people 3 doors; inspector at 1 down pace 2; inspector at 1 down pace 1 knocks 1;");
+        path(x, 0, 0, 3, 3, 5, 0, 0);
+        CHECKS.due("effort(0)", x.effort(0), 3);
+    }
+
+    private static void eightCoaches() {
+        // Nothing is beyond COACH 7, and its number is the last by the platform.
+        String eight = "train coaches 8 minutes 3 every 1 fare 0 fine 0; coach 0 people 9 loo doors;"
+            + "coach 6 people 1; coach 7 people 0 doors;";
+        CoachAhead x = Checks.of(eight + "inspector at 6 up pace 1;");
+        CHECKS.due("at(0, 2)", x.at(0, 2), 7);
+        path(x, 7, 0, 4);
+        CHECKS.due("effort(7)", x.effort(7), 1);
+        CHECKS.due("safe()", x.safe(), 191);
+        CHECKS.due("where() in 7", Checks.of(eight + "rider in 7 stay sees 0 looks 0;").where(0, 2), 7);
+        x = Checks.of("train coaches 8 minutes 3 every 1 fare 0 fine 0; coach 0 people 0 doors; coach 1 people 1;"
+            + "coach 7 people 0 doors loo; inspector at 1 down pace 1;");
+        path(x, 0, 0, 11);
+        path(x, 7, 0, 0);
+        CHECKS.due("can(7, 1, 0)", x.can(7, 1, 0), 1);
+        CHECKS.due("room(2)", x.room(2), 8);
     }
 
     private static void oneMinute() {
@@ -184,6 +208,7 @@ public final class UncaughtTest {
         }
         CHECKS.due("can(0, 1, 0): no LOO", x.can(0, 1, 0), -2);
         CHECKS.due("can(4, 0, 0)", x.can(4, 0, 0), -2);
+        CHECKS.due("can(1, 2, 0)", x.can(1, 2, 0), -2);
         CHECKS.due("path(4, 0)", x.path(4, 0), -2);
         x = new CoachAhead();
         CHECKS.due("can", x.can(0, 0, 0), -2);
