@@ -64,10 +64,10 @@ public final class CoachAhead {
         }
         rides = new Ride[MOST_RIDERS];
         for (int r = 0; r < MOST_RIDERS; r++) {
-            rides[r] = new Ride();
+            rides[r] = new Ride(now, courses);
         }
-        chase = new Chase();
-        hunt = new Hunt();
+        chase = new Chase(now);
+        hunt = new Hunt(now);
         draws = new Draws();
         slots = new Row[SLOTS];
         for (int s = 0; s < SLOTS; s++) {
@@ -800,7 +800,7 @@ public final class CoachAhead {
 
     private void openChase() {
         followAll();
-        chase.open(now);
+        chase.open();
         for (int i = 0; i < now.inspectors(); i++) {
             chase.add(courses[i], now.ofInspector(i, Train.KNOCKS) > 0);
         }
@@ -820,7 +820,7 @@ public final class CoachAhead {
 
     /** A RIDER's way by the TRIP; the INSPECTORS' courses must stand already. */
     private Ride rideOf(int rider) {
-        rides[rider].travel(now, rider, now.ofRider(rider, Train.RULE), courses, now.inspectors());
+        rides[rider].travel(rider, now.ofRider(rider, Train.RULE), now.inspectors());
         return rides[rider];
     }
 
@@ -833,7 +833,7 @@ public final class CoachAhead {
             return;
         }
         followBegins();
-        hunt.seek(now, begun);
+        hunt.seek(begun);
     }
 
     private void followBegins() {
@@ -845,7 +845,7 @@ public final class CoachAhead {
     /** In how many COACHES one can begin, UNCAUGHT, if INSPECTOR 0 alone goes by a BEGIN. */
     private int openBy(int begin) {
         begun[begin].follow(now, 0, begin);
-        chase.open(now);
+        chase.open();
         chase.add(begun[begin], now.ofInspector(0, Train.KNOCKS) > 0);
         return Integer.bitCount(chase.solve());
     }
@@ -861,7 +861,7 @@ public final class CoachAhead {
     /** The TABLE's number; the BEGIN's course must stand already. */
     private int tableMark(int rider, int rule, int begin) {
         courses[0].takeFrom(begun[begin]);
-        rides[rider].travel(now, rider, rule, courses, 1);
+        rides[rider].travel(rider, rule, 1);
         return rides[rider].caughtIn == NONE ? now.minutes() : rides[rider].caughtIn;
     }
 
@@ -1644,16 +1644,20 @@ public final class CoachAhead {
 
         /** COACHES, and LOOS as the COACH and Chase.LOOS_FROM. */
         final int[] places = new int[MOST_MINUTES];
-        Train train;
-        Course[] courses;
+        final Train train;
+        final Course[] courses;
         int inspectors;
         int sees;
         int caughtIn;
         int caughtBy;
 
-        void travel(Train train, int rider, int rule, Course[] courses, int inspectors) {
+        Ride(Train train, Course[] courses) {
             this.train = train;
             this.courses = courses;
+        }
+
+        /** Goes the whole way, by the courses of so many INSPECTORS, which must stand already. */
+        void travel(int rider, int rule, int inspectors) {
             this.inspectors = inspectors;
             sees = train.ofRider(rider, Train.SEES);
             caughtIn = NONE;
@@ -1792,14 +1796,18 @@ public final class CoachAhead {
         final int[] open = new int[MOST_MINUTES];
         final int[] costs = new int[PLACES];
         final int[] later = new int[PLACES];
-        Train train;
+        final Train train;
         int minutes;
         int all;
         int loos;
         int doors;
 
-        void open(Train train) {
+        Chase(Train train) {
             this.train = train;
+        }
+
+        /** Begins anew with the TRAIN as it is, without INSPECTORS. */
+        void open() {
             minutes = train.minutes();
             all = train.allCoaches();
             loos = train.looBits();
@@ -1832,7 +1840,6 @@ public final class CoachAhead {
 
         /** Becomes the chase by the INSPECTORS of both. */
         void join(Chase one, Chase other) {
-            train = one.train;
             minutes = one.minutes;
             all = one.all;
             loos = one.loos;
@@ -1958,16 +1965,20 @@ public final class CoachAhead {
     /** The fewest INSPECTORS like INSPECTOR 0 that surely have everybody; kept until the TRAIN changes. */
     private static final class Hunt {
         final Chase[] single = new Chase[MOST_BEGINS];
-        final Chase pair = new Chase();
-        final Chase trio = new Chase();
+        final Chase pair;
+        final Chase trio;
         final int[] picks = new int[MOST_INSPECTORS];
+        final Train train;
         int begins;
         int size;
         boolean known;
 
-        Hunt() {
+        Hunt(Train train) {
+            this.train = train;
+            pair = new Chase(train);
+            trio = new Chase(train);
             for (int b = 0; b < MOST_BEGINS; b++) {
-                single[b] = new Chase();
+                single[b] = new Chase(train);
             }
         }
 
@@ -1975,12 +1986,13 @@ public final class CoachAhead {
             known = false;
         }
 
-        void seek(Train train, Course[] courses) {
+        /** Seeks by the course of each BEGIN, which must stand already. */
+        void seek(Course[] courses) {
             known = true;
             begins = train.beginCount();
             boolean knocks = train.ofInspector(0, Train.KNOCKS) > 0;
             for (int b = 0; b < begins; b++) {
-                single[b].open(train);
+                single[b].open();
                 single[b].add(courses[b], knocks);
             }
             // Nobody is HAD without an INSPECTOR, so one is the fewest there can be.

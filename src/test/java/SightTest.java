@@ -26,6 +26,9 @@ public final class SightTest {
             CHECKS.due("may(0, " + m + ")", x.may(0, m), may[m]);
         }
         CHECKS.due("look(0)", x.look(0), 4);
+        CoachAhead fresh = Checks.of(Trains.FOUR);
+        sightings(fresh, 0, 0, 2, 1);
+        CHECKS.due("may(0, 3), asked first", fresh.may(0, 3), 7);
         sightings(x, 1, 3, 2, 1, 3, 1);
         // BEGINS 0, 5 and 7 are left; in MINUTE 0 they are in three COACHES.
         CHECKS.due("sighted(1)", x.sighted(1), 3);

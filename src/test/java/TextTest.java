@@ -217,6 +217,12 @@ public final class TextTest {
 
     private static void tokens() {
         good("train\ncoaches4minutes8every3fare3fine60;coach1people5loo doors;day0odds5;", 3);
+        // What end() cut off is gone.
+        CoachAhead x = new CoachAhead();
+        Checks.type(x, "trains;");
+        x.end(5);
+        CHECKS.due("train() of train", x.train(), -4);
+        CHECKS.due("its place", x.fault(1), 5);
         bad("trainz coaches 4;", 1, 0);
         bad("traina coaches 4;", 1, 0);
         badTail("", "\tcoach 1 people 5;", 1);
