@@ -800,7 +800,7 @@ public final class CoachAhead {
 
     private void openChase() {
         followAll();
-        chase.open();
+        chase.restart();
         for (int i = 0; i < now.inspectors(); i++) {
             chase.add(courses[i], now.ofInspector(i, Train.KNOCKS) > 0);
         }
@@ -845,7 +845,7 @@ public final class CoachAhead {
     /** In how many COACHES one can begin, UNCAUGHT, if INSPECTOR 0 alone goes by a BEGIN. */
     private int openBy(int begin) {
         begun[begin].follow(now, 0, begin);
-        chase.open();
+        chase.restart();
         chase.add(begun[begin], now.ofInspector(0, Train.KNOCKS) > 0);
         return Integer.bitCount(chase.solve());
     }
@@ -1807,7 +1807,7 @@ public final class CoachAhead {
         }
 
         /** Begins anew with the TRAIN as it is, without INSPECTORS. */
-        void open() {
+        void restart() {
             minutes = train.minutes();
             all = train.allCoaches();
             loos = train.looBits();
@@ -1992,7 +1992,7 @@ public final class CoachAhead {
             begins = train.beginCount();
             boolean knocks = train.ofInspector(0, Train.KNOCKS) > 0;
             for (int b = 0; b < begins; b++) {
-                single[b].open();
+                single[b].restart();
                 single[b].add(courses[b], knocks);
             }
             // Nobody is HAD without an INSPECTOR, so one is the fewest there can be.
