@@ -101,6 +101,7 @@ public final class CoachAhead {
 
     public int train() {
         boolean good = reader.readInto(draft);
+        // Read as empty after a FAULT too, where the next text would else come behind the refused one.
         tape.size = 0;
         if (!good) {
             return FAULTY;
