@@ -826,7 +826,8 @@ public final class CoachAhead {
     }
 
     private boolean isHad(int rider) {
-        return tripOf(rider).caughtIn != NONE;
+        followAll();
+        return rideOf(rider).caughtIn != NONE;
     }
 
     private void seekFewest() {
