@@ -140,22 +140,54 @@ public final class FaultTest {
         for (int seed = 0; seed < 6000; seed++) {
             Random random = Checks.randomOf(seed);
             String text = spoil(goodText(random), random);
-            if (text.length() > 1180) {
-                continue;
+            if (text.length() <= 1200) {
+                seen[compare(text)]++;
             }
-            Reading due = new Reading(text);
-            seen[due.fault]++;
-            CoachAhead x = Checks.of(Trains.BARE);
-            Checks.type(x, text);
-            CHECKS.due("train() of " + text, x.train(), due.fault == 0 ? due.lines : -4);
-            CHECKS.due("fault(0) of " + text, x.fault(0), due.fault);
-            CHECKS.due("fault(1) of " + text, x.fault(1), due.place);
-            CHECKS.due("LINES of " + text, x.count(7), due.fault == 0 ? due.lines : 1);
         }
+        cutAtEachByte();
+        eachTokenAsAnother();
         for (int fault = 0; fault < 4; fault++) {
             CHECKS.holds("FAULT " + fault + " was among them", seen[fault] > 20);
         }
         CHECKS.close("FaultTest");
+    }
+
+    /** The FAULT that is due. */
+    private static int compare(String text) {
+        Reading due = new Reading(text);
+        CoachAhead x = Checks.of(Trains.BARE);
+        Checks.type(x, text);
+        CHECKS.due("train() of " + text, x.train(), due.fault == 0 ? due.lines : -4);
+        CHECKS.due("fault(0) of " + text, x.fault(0), due.fault);
+        CHECKS.due("fault(1) of " + text, x.fault(1), due.place);
+        CHECKS.due("LINES of " + text, x.count(7), due.fault == 0 ? due.lines : 1);
+        return due.fault;
+    }
+
+    /** Each form that a LINE can have, with as many INSPECTORS and RIDERS as there may be. */
+    private static final String ALL_FORMS = "train coaches 8 minutes 40 every 20 fare 99 fine 999; coach 7 people 99 loo doors;\n"
+        + "coach 0 people 0 doors loo; coach 1 people 1; inspector at 7 down pace 20 turns knocks 100;\n"
+        + "inspector at 0 up pace 1 knocks 0 turns; inspector at 3 up pace 5; rider in 7 stay sees 7 looks 100 ticket;\n"
+        + "rider in 0 forward sees 0 looks 0; rider in 1 loo sees 1 looks 1; rider in 2 round sees 2 looks 2;\n"
+        + "rider in 3 stay sees 3 looks 3; rider in 4 stay sees 4 looks 4; day 6 odds 100; day 0 odds 0;\n";
+
+    private static void cutAtEachByte() {
+        for (int n = 0; n <= ALL_FORMS.length(); n++) {
+            compare(ALL_FORMS.substring(0, n));
+            compare(ALL_FORMS.substring(0, n) + " \n");
+        }
+    }
+
+    private static void eachTokenAsAnother() {
+        for (Token token : tokensOf(ALL_FORMS)) {
+            String front = ALL_FORMS.substring(0, token.place);
+            String back = ALL_FORMS.substring(token.place + token.text.length());
+            compare(front + back);
+            for (String word : WORDS) {
+                compare(front + word + " " + back);
+                compare(front + word + " " + token.text + back);
+            }
+        }
     }
 
     private static String goodText(Random random) {

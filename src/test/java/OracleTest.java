@@ -22,6 +22,13 @@ public final class OracleTest {
             compareAll(x, o, random);
             changeSome(x, o, random);
         }
+        for (int seed = 2000; seed < 2150; seed++) {
+            Random random = Checks.randomOf(seed);
+            Oracle o = makeAtBounds(random);
+            about = "seed " + seed + ": ";
+            CoachAhead x = Checks.of(o.text());
+            compareAll(x, o, random);
+        }
         CHECKS.close("OracleTest");
     }
 
@@ -51,6 +58,40 @@ public final class OracleTest {
             o.odds[d] = random.nextBoolean() ? 0 : random.nextInt(101);
         }
         return o;
+    }
+
+    /** A TRAIN whose numbers are all at their bounds, or beside them. */
+    static Oracle makeAtBounds(Random random) {
+        Oracle o = new Oracle();
+        o.coaches = atBounds(random, 2, 8);
+        o.minutes = atBounds(random, 1, 40);
+        o.every = atBounds(random, 1, 20);
+        o.fare = atBounds(random, 0, 99);
+        o.fine = atBounds(random, 0, 999);
+        for (int c = 0; c < o.coaches; c++) {
+            o.people[c] = random.nextBoolean() ? atBounds(random, 0, 99) : random.nextInt(4);
+            o.loo[c] = random.nextInt(3) == 0;
+            o.doors[c] = random.nextBoolean();
+        }
+        int inspectors = random.nextInt(4) == 0 ? 0 : 1 + random.nextInt(3);
+        for (int i = 0; i < inspectors; i++) {
+            o.inspectors.add(new Oracle.Inspector(atBounds(random, 0, o.coaches - 1), random.nextBoolean(),
+                atBounds(random, 1, 20), atBounds(random, 0, 100), random.nextBoolean()));
+        }
+        int riders = random.nextInt(4) == 0 ? 0 : 6;
+        for (int r = 0; r < riders; r++) {
+            o.riders.add(new Oracle.Rider(atBounds(random, 0, o.coaches - 1), random.nextInt(4), atBounds(random, 0, 7),
+                atBounds(random, 0, 100), random.nextBoolean()));
+        }
+        for (int d = 0; d < 7; d++) {
+            o.odds[d] = atBounds(random, 0, 100);
+        }
+        return o;
+    }
+
+    private static int atBounds(Random random, int least, int most) {
+        int inner = random.nextInt(3) == 0 && most > least ? 1 : 0;
+        return random.nextBoolean() ? least + inner : most - inner;
     }
 
     private static void compareAll(CoachAhead x, Oracle o, Random random) {
