@@ -120,7 +120,7 @@ public final class EdgeChangeTest {
             CHECKS.due("undo()", x.undo(), i);
         }
         CoachAhead fresh = Checks.of(EIGHT);
-        CHECKS.holds("all is as it was", Sight.of(x).equals(Sight.of(fresh)));
+        CHECKS.holds("all is as it was", Whole.of(x).equals(Whole.of(fresh)));
     }
 
     private static void likeValuesAreChanges() {

@@ -152,16 +152,13 @@ public final class EdgeDrawTest {
         CHECKS.due("where(1, 4)", x.where(1, 4), 11);
         CHECKS.due("drawn(3, 1)", x.drawn(3, 1), 3);
         CHECKS.due("drawn(3, 2)", x.drawn(3, 2), 3);
-        // One that does not knock has him outside; one that knocks and is there already draws nothing for him:
-        // so RIDER 1 has the first draw of all.
+        // Who comes into the LOO where it is already takes no draw: RIDER 1 has the first of all, 38 by seed 1.
         x = Checks.of("train coaches 3 minutes 9 every 9 fare 0 fine 0; coach 0 people 9 loo; coach 2 people 0 loo;"
-            + "coach 1 people 0; inspector at 0 up pace 1 knocks 50; inspector at 1 up pace 1 knocks 39;"
+            + "inspector at 0 up pace 1 knocks 50; inspector at 1 up pace 1 knocks 39;"
             + "rider in 0 loo sees 0 looks 0; rider in 2 loo sees 1 looks 0;");
         CHECKS.due("where(0, 1)", x.where(0, 1), 10);
         CHECKS.due("where(1, 1)", x.where(1, 1), 12);
-        CHECKS.due("drawn(1, 1) by 38", x.drawn(1, 1), 1);
-        x.set(0, 1, 0);
-        CHECKS.due("drawn(1, 1) by 38", x.drawn(1, 1), 1);
+        CHECKS.due("drawn(1, 1)", x.drawn(1, 1), 1);
     }
 
     private static void twiceInATrip() {

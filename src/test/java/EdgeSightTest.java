@@ -1,7 +1,7 @@
 /** The edges of promises 47 to 50: what a row of sightings may be, and what it leaves. */
 public final class EdgeSightTest {
     private static final Checks CHECKS = new Checks();
-    private static final String EIGHT = Sight.EIGHT;
+    private static final String EIGHT = Whole.EIGHT;
 
     public static void main(String[] args) {
         fullRow();

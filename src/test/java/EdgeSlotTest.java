@@ -18,7 +18,7 @@ public final class EdgeSlotTest {
         CHECKS.close("EdgeSlotTest");
     }
 
-    /** Number i of a SLOT's row, read by a pair of 0 and it in another SLOT; the TRAIN is Sight.EIGHT. */
+    /** Number i of a SLOT's row, read by a pair of 0 and it in another SLOT; the TRAIN is Whole.EIGHT. */
     private static int read(CoachAhead x, int slot, int width, int i, int other) {
         x.row(other, width, 2);
         int alike = x.paste(slot, i, other, 1, 1);
@@ -54,7 +54,7 @@ public final class EdgeSlotTest {
     }
 
     private static void rowsFromNoneToSixty() {
-        CoachAhead x = Checks.of(Sight.EIGHT);
+        CoachAhead x = Checks.of(Whole.EIGHT);
         for (int slot = 0; slot < 4; slot++) {
             for (int width = 0; width < 4; width++) {
                 CHECKS.due("row(" + slot + ", " + width + ", 60)", x.row(slot, width, 60), 0);
@@ -71,7 +71,7 @@ public final class EdgeSlotTest {
     }
 
     private static void rowRefusedStays() {
-        CoachAhead x = Checks.of(Sight.EIGHT);
+        CoachAhead x = Checks.of(Whole.EIGHT);
         int[][] wrong = {{4, 0, 1, -2}, {-1, 0, 1, -2}, {MAX, 0, 1, -2}, {MIN, 0, 1, -2}, {1, 4, 1, -2}, {1, -1, 1, -2},
             {1, MAX, 1, -2}, {1, MIN, 1, -2}, {1, 0, 61, -2}, {1, 0, MAX, -2}, {1, 0, -1, -3}, {1, 3, MIN, -3},
             {4, 0, -1, -2}, {1, 4, -1, -2}, {-1, -1, -1, -2}, {4, 4, 61, -2}};
@@ -90,7 +90,7 @@ public final class EdgeSlotTest {
     }
 
     private static void rowInPlaceOfAnother() {
-        CoachAhead x = Checks.of(Sight.EIGHT);
+        CoachAhead x = Checks.of(Whole.EIGHT);
         x.row(1, 1, 60);
         for (int i = 0; i < 60; i++) {
             x.write(1, i, 7);
@@ -107,7 +107,7 @@ public final class EdgeSlotTest {
     }
 
     private static void writeFirstAndLast() {
-        CoachAhead x = Checks.of(Sight.EIGHT);
+        CoachAhead x = Checks.of(Whole.EIGHT);
         int[] slots = {-1, 4, MIN, MAX};
         for (int slot : slots) {
             CHECKS.due("write(" + slot + ")", x.write(slot, 0, 0), -2);
@@ -128,7 +128,7 @@ public final class EdgeSlotTest {
     }
 
     private static void cutToEachWidth() {
-        CoachAhead x = Checks.of(Sight.EIGHT);
+        CoachAhead x = Checks.of(Whole.EIGHT);
         for (int width = 0; width < 4; width++) {
             int bits = 8 << width;
             x.row(0, width, 1);
@@ -152,7 +152,7 @@ public final class EdgeSlotTest {
     }
 
     private static CoachAhead counting() {
-        CoachAhead x = Checks.of(Sight.EIGHT);
+        CoachAhead x = Checks.of(Whole.EIGHT);
         x.row(0, 1, 60);
         x.row(1, 1, 60);
         for (int i = 0; i < 60; i++) {
@@ -215,7 +215,7 @@ public final class EdgeSlotTest {
     }
 
     private static void pasteAsksInItsOrder() {
-        CoachAhead x = Checks.of(Sight.EIGHT);
+        CoachAhead x = Checks.of(Whole.EIGHT);
         x.row(0, 0, 4);
         x.row(1, 1, 4);
         int[][] asked = {{4, 0, 0, 0, 0, -2}, {0, 0, 4, 0, 0, -2}, {-1, 0, 0, 0, 0, -2}, {0, 0, -1, 0, 0, -2},

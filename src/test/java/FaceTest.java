@@ -36,6 +36,14 @@ public final class FaceTest {
             }
             found.add(face.append(")").toString());
         }
+        for (Class<?> inside : CoachAhead.class.getDeclaredClasses()) {
+            checks.holds(inside.getName() + " is static, and not public", Modifier.isStatic(inside.getModifiers())
+                && !Modifier.isPublic(inside.getModifiers()) && !Modifier.isProtected(inside.getModifiers()));
+            for (Method method : inside.getDeclaredMethods()) {
+                checks.holds(inside.getName() + "." + method.getName() + " bears no public name",
+                    wanted.stream().noneMatch(face -> face.startsWith(method.getName() + "(")));
+            }
+        }
         checks.due("methods of the document", wanted.size(), 63);
         checks.holds("the methods are the document's: " + found, found.equals(wanted));
         for (Field field : CoachAhead.class.getDeclaredFields()) {

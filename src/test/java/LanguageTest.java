@@ -2,6 +2,8 @@ import java.nio.file.Files;
 import java.nio.file.Path;
 import java.util.ArrayList;
 import java.util.List;
+import java.util.Map;
+import java.util.TreeMap;
 import java.util.regex.Matcher;
 import java.util.regex.Pattern;
 
@@ -29,6 +31,7 @@ public final class LanguageTest {
         parametersAndLengths(code);
         calls(code);
         classes(code);
+        depth(code);
         CHECKS.close("LanguageTest");
     }
 
@@ -79,6 +82,42 @@ public final class LanguageTest {
         while (m.find()) {
             CHECKS.holds("call of " + m.group(1), own.contains(m.group(1)) || m.group(1).matches(LIBRARY));
         }
+    }
+
+    /** Calls go at most eight deep, one of the library counted as one, and none comes back to where it was. */
+    private static void depth(String code) {
+        Map<String, String> bodies = new TreeMap<>();
+        Pattern head = Pattern.compile("^( +)(?:\\w+ )*[\\w\\[\\]]+ (\\w+)\\([^()]*\\) \\{$");
+        String[] lines = code.split("\n");
+        for (int i = 0; i < lines.length; i++) {
+            Matcher m = head.matcher(lines[i]);
+            if (m.matches() && !m.group(2).matches("if|for|while|switch")) {
+                StringBuilder body = new StringBuilder();
+                for (int k = i + 1; k < lines.length && !lines[k].equals(m.group(1) + "}"); k++) {
+                    body.append(lines[k]).append("\n");
+                }
+                bodies.merge(m.group(2), body.toString(), String::concat);
+            }
+        }
+        CHECKS.holds("methods were found: " + bodies.size(), bodies.size() > 100);
+        for (String name : bodies.keySet()) {
+            int deep = depthOf(name, bodies, 1);
+            CHECKS.holds(name + " goes at most eight deep, not " + deep, deep <= 8);
+        }
+    }
+
+    private static int depthOf(String name, Map<String, String> bodies, int level) {
+        int deepest = level;
+        Matcher m = Pattern.compile("\\b(\\w+)\\(").matcher(bodies.get(name));
+        while (m.find() && level < 20) {
+            String called = m.group(1);
+            if (bodies.containsKey(called)) {
+                deepest = Math.max(deepest, depthOf(called, bodies, level + 1));
+            } else if (called.matches(LIBRARY)) {
+                deepest = Math.max(deepest, level + 1);
+            }
+        }
+        return deepest;
     }
 
     private static void classes(String code) {

@@ -229,7 +229,7 @@ public final class RefusedTest {
         CoachAhead x = state.get();
         CHECKS.due(call.name + Arrays.toString(values), ask(x, call, values), due);
         CHECKS.holds("all stays after " + call.name + Arrays.toString(values),
-            Sight.of(x).equals(Sight.of(state.get())));
+            Whole.of(x).equals(Whole.of(state.get())));
     }
 
     private static void withoutInspectorsAndRiders() throws Exception {

@@ -6,26 +6,26 @@ import java.util.List;
  * two objects made by the same calls are looked at, one of them after calls that should leave all as it was.
  * SLOT 3 should have nothing: it is used to read the others.
  */
-final class Sight {
+final class Whole {
     /** A pair of 0 and C in a row is told as the BEGIN 2 C. */
     static final String EIGHT = "train coaches 8 minutes 40 every 1 fare 0 fine 0; inspector at 0 up pace 1;";
 
     private final CoachAhead x;
     private final List<Integer> seen = new ArrayList<>();
 
-    private Sight(CoachAhead x) {
+    private Whole(CoachAhead x) {
         this.x = x;
     }
 
     static List<Integer> of(CoachAhead x) {
-        Sight sight = new Sight(x);
-        sight.counts();
-        sight.parts();
-        sight.changes();
-        sight.tape();
-        sight.images();
-        sight.slots();
-        return sight.seen;
+        Whole whole = new Whole(x);
+        whole.counts();
+        whole.parts();
+        whole.changes();
+        whole.tape();
+        whole.images();
+        whole.slots();
+        return whole.seen;
     }
 
     private void counts() {
